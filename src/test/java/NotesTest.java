@@ -1,0 +1,221 @@
+/** Promises 25, 26, 30 to 32, 36 and 37: notes and what they tell, images. */
+public final class NotesTest {
+    private static final Check check = new Check();
+    private static final String TWO = "rope 60 0;puller 1 4 9 9;puller 0 4 9 9";
+
+    public static void main(String[] args) {
+        notes();
+        strengths();
+        winds();
+        fromTheBeginOn();
+        ruled();
+        look();
+        images();
+        imagesWithoutRope();
+        withoutRope();
+        check.close("NotesTest");
+    }
+
+    private static void notes() {
+        TugRope t = Check.made(TWO);
+        check.is("first", t.note(0, 0), 1);
+        check.is("second", t.note(60, 200), 2);
+        check.is("n 61", t.note(61, 100), -2);
+        check.is("n -2", t.note(-2, 100), -2);
+        check.is("ribbon 201", t.note(1, 201), -2);
+        check.is("ribbon -1", t.note(1, -1), -2);
+        check.is("count", t.count(10), 2);
+        for (int i = 3; i <= 10; i++) {
+            check.is("note " + i, t.note(1, 100), i);
+        }
+        check.is("eleventh", t.note(1, 100), -2);
+        check.is("count", t.count(10), 10);
+        check.is("none then", t.note(-1, 100), 0);
+        check.is("count", t.count(10), 0);
+        check.is("none then", t.note(-1, -77), 0);
+        check.is("no act", t.count(11), 0);
+    }
+
+    private static void strengths() {
+        TugRope t = Check.made(TWO);
+        check.is("all 40", t.strengths(0, 0), 40);
+        check.is("least 1", t.strengths(0, 1), 1);
+        t.note(1, 103);
+        check.is("10 and 11", t.strengths(0, 0), 2);
+        check.is("10 and 11", t.strengths(0, 1), 10);
+        check.is("none of the other", t.strengths(1, 0), 0);
+        check.is("none of the other", t.strengths(1, 1), -2);
+        t.note(0, 100);
+        check.is("the begin is so", t.strengths(0, 0), 2);
+        t.note(0, 101);
+        check.is("the begin is not so", t.strengths(0, 0), 0);
+        check.is("what 2", t.strengths(0, 2), -1);
+        check.is("what -1", t.strengths(0, -1), -1);
+        check.is("nobody", t.strengths(2, 0), -1);
+        check.is("nobody", t.strengths(-1, 0), -1);
+    }
+
+    private static void winds() {
+        TugRope t = Check.made(TWO);
+        check.is("all 61", t.winds(0, 0), 61);
+        check.is("least 0", t.winds(0, 1), 0);
+        t.note(1, 99);
+        check.is("1 alone", t.winds(0, 0), 1);
+        check.is("1 alone", t.winds(0, 1), 1);
+        t.note(-1, 0);
+        t.note(1, 100);
+        check.is("2 to 60", t.winds(0, 0), 59);
+        check.is("2 to 60", t.winds(0, 1), 2);
+        t.note(2, 98);
+        check.is("2 alone", t.winds(0, 0), 1);
+        check.is("2 alone", t.winds(0, 1), 2);
+        t.note(3, 98);
+        check.is("what was told is 2, too: 2 comes back", t.winds(0, 0), 1);
+        t.note(3, 150);
+        check.is("none", t.winds(0, 0), 0);
+        check.is("none", t.winds(0, 1), -2);
+        check.is("what 2", t.winds(0, 2), -1);
+        check.is("what -1", t.winds(0, -1), -1);
+        check.is("nobody", t.winds(2, 0), -1);
+        check.is("nobody", t.winds(-1, 0), -1);
+    }
+
+    private static void fromTheBeginOn() {
+        TugRope t = Check.made(TWO, "pull 1");
+        t.heave();
+        t.send(1);
+        t.set(150);
+        t.note(1, 103);
+        // by the RULE IN FORCE: s - 4 is 12 to 15
+        check.is("16 to 19", t.strengths(0, 0), 4);
+        check.is("16 to 19", t.strengths(0, 1), 16);
+        t.force(-1);
+        check.is("10 and 11", t.strengths(0, 1), 10);
+        check.is("nothing stays", t.ribbon(), 150);
+        check.is("nothing stays", t.puller(0, 1), 4);
+        check.is("nothing stays", t.puller(1, 0), 1);
+    }
+
+    private static TugRope ruledOne() {
+        TugRope t = Check.made("rope 60 0;puller 1 4 60 9", "pull 3", "pull 2", "pull 0 if heave = 0;pull 2");
+        t.force(2);
+        return t;
+    }
+
+    private static void ruled() {
+        TugRope t = ruledOne();
+        check.is("all and none", t.ruled(0), 4);
+        check.is("none first", t.ruled(1), -1);
+        t.note(1, 102);
+        check.is("none and 1", t.ruled(0), 2);
+        check.is("none and 1", t.ruled(1), -1);
+        t.note(-1, 0);
+        t.note(1, 103);
+        check.is("0", t.ruled(0), 1);
+        check.is("0", t.ruled(1), 0);
+        t.note(-1, 0);
+        t.note(4, 106);
+        check.is("2", t.ruled(1), 2);
+        t.note(1, 102);
+        check.is("no such", t.ruled(0), 0);
+        check.is("no such", t.ruled(1), -2);
+        check.is("what 2", t.ruled(2), -3);
+        check.is("what -1", t.ruled(-1), -3);
+        check.is("none alone", Check.made(TWO).ruled(0), 1);
+    }
+
+    private static void look() {
+        TugRope t = ruledOne();
+        check.is("behind the first", t.look(0), 1);
+        check.is("two are alike", t.look(1), 2);
+        t.note(2, 104);
+        check.is("none and 1 never part", t.look(0), 0);
+        check.is("two are alike", t.look(1), 2);
+        t.note(-1, 0);
+        t.note(1, 103);
+        check.is("one alone", t.look(0), 0);
+        check.is("one alone", t.look(1), 1);
+        t.note(1, 104);
+        check.is("none is so", t.look(0), -2);
+        check.is("none is so", t.look(1), -2);
+        check.is("what 2", t.look(2), -1);
+        check.is("what -1", t.look(-1), -1);
+        TugRope late = Check.made("rope 60 0;puller 1 4 60 9", "pull 2 if heave < 20", "pull 2;pull 3");
+        check.is("behind the 21st", late.look(0), 21);
+        check.is("two are alike", late.look(1), 2);
+    }
+
+    private static void images() {
+        TugRope t = Check.made(TWO, "pull 1", "pull 3");
+        t.heave();
+        t.note(1, 100);
+        t.seed(42);
+        check.is("image 0", t.image(0), 1);
+        t.force(1);
+        t.breath(0, 9);
+        t.heave();
+        t.set(120);
+        t.note(2, 100);
+        t.seed(43);
+        check.is("image 3", t.image(3), 2);
+        check.is("image 4", t.image(4), -1);
+        check.is("image -1", t.image(-1), -1);
+        Check.tellRule(t, "pull 2");
+        Check.tellRope(t, "rope 7 7;puller 0 9 9 9");
+        Check.tell(t, "rope");
+        check.is("back 0", t.back(0), 1);
+        check.is("tape stays", t.count(13), 4);
+        check.is("rules stay", t.count(3), 3);
+        check.is("line", t.count(0), 60);
+        check.is("pullers", t.count(2), 2);
+        check.is("in force", t.count(4), 0);
+        check.is("HEAVE", t.count(5), 1);
+        check.is("wind", t.puller(0, 2), 8);
+        check.is("worked", t.count(9), 2);
+        check.is("notes", t.count(10), 1);
+        check.is("nothing undone", t.undo(), -1);
+        check.is("x", t.count(12), 42);
+        t.heave();
+        t.note(5, 5);
+        check.is("back 3", t.back(3), 2);
+        check.is("ribbon", t.ribbon(), 120);
+        check.is("notes", t.count(10), 2);
+        check.is("in force", t.count(4), 1);
+        check.is("x", t.count(12), 43);
+        check.is("acts", t.count(11), 0);
+        check.is("back 0 again", t.back(0), 1);
+        check.is("its notes", t.count(10), 1);
+        check.is("back 1, never made", t.back(1), -1);
+        check.is("back 4", t.back(4), -1);
+        check.is("back -1", t.back(-1), -1);
+        t.heave();
+        check.is("nothing happens", t.back(2), -1);
+        check.is("acts stay", t.count(11), 1);
+        check.is("image 0 made anew", t.image(0), 2);
+        t.heave();
+        check.is("back", t.back(0), 2);
+    }
+
+    private static void imagesWithoutRope() {
+        TugRope t = new TugRope();
+        check.is("image", t.image(2), 0);
+        Check.tellRope(t, TWO);
+        t.heave();
+        check.is("back", t.back(2), 0);
+        check.is("no rope", t.ribbon(), -1);
+        check.is("no pullers", t.count(2), 0);
+        check.is("HEAVE", t.count(5), 0);
+        check.is("nobody worked", t.count(9), 0);
+        check.is("nobody stands", t.count(7), 0);
+    }
+
+    private static void withoutRope() {
+        TugRope t = new TugRope();
+        check.is("note", t.note(0, 100), -2);
+        check.is("strengths", t.strengths(0, 0), -1);
+        check.is("winds", t.winds(0, 0), -1);
+        check.is("ruled", t.ruled(0), -3);
+        check.is("look", t.look(0), -1);
+        check.is("back", t.back(0), -1);
+    }
+}
