@@ -126,6 +126,9 @@ public final class AheadTest {
         for (int[] b : bad) {
             check.is("trade " + b[0] + " " + b[1], t.trade(b[0], b[1]), -2);
         }
+        TugRope oneSide = Check.made("rope 60 0;puller 0 4 9 9;puller 0 8 9 9;puller 0 2 9 9");
+        check.is("nobody to change with", oneSide.trade(2, 0), 14);
+        check.is("nobody to change with", oneSide.trade(2, 1), -1);
         check.is("n 40", t.trade(40, 0) >= 0 ? 1 : 0, 1);
         check.is("nobody's", Check.made("rope 5 0;ribbon 6").trade(3, 0), 2);
     }
@@ -260,6 +263,8 @@ public final class AheadTest {
         alone.send(0);
         check.is("SIDE 0 has it", alone.rain(10, 60, 0, 0), 0);
         check.is("SIDE 0 has it", alone.rain(10, 60, 0, 1), 1940);
+        check.is("over at the LINE itself", Check.made("rope 6 0;puller 1 4 60 0").rain(1, 3, 0, 0), 1);
+        check.is("not over yet", Check.made("rope 7 0;puller 1 4 60 0").rain(1, 3, 0, 0), 0);
         check.is("nobody there", Check.made("rope 5 0").rain(10, 60, 100, 1), 2000);
         int[][] bad = {{0, 1, 0, 0}, {11, 1, 0, 0}, {1, 0, 0, 0}, {1, 61, 0, 0}, {1, 1, -1, 0}, {1, 1, 101, 0},
             {1, 1, 0, 2}, {1, 1, 0, -1}};

@@ -15,6 +15,7 @@ public final class LanguageTest {
         sixRules();
         meanings();
         wordsOfAPuller();
+        fullTapes();
         check.close("LanguageTest");
     }
 
@@ -296,6 +297,9 @@ public final class LanguageTest {
         means("pull 1 if not not 1=1;pull 2", 1);
         means("pull 1 if not not not 1=1;pull 2", 2);
         means("pull 1 if 1+1=2*1 and 7-1-1=5;pull 2", 1);
+        means("pull 3 if 1=2;".repeat(11) + "pull 2", 2);
+        means("pull 3 if 1=2;".repeat(11) + "pull 2 if 2=2", 2);
+        means("pull 3 if 1=2;".repeat(11) + "pull 2 if 1=2", 0);
     }
 
     /** The RIBBON is at -7 of LINE 60 here, for one of SIDE 1; the answer is how far it goes. */
@@ -328,5 +332,20 @@ public final class LanguageTest {
         t.heave();
         check.is("later words", t.puller(0, 6), 5);
         check.is("all worked", t.count(9), 17);
+    }
+
+    private static void fullTapes() {
+        rope("rope 1 0" + " ".repeat(392), 0);
+        rope(" ".repeat(392) + "rope 1 0", 0);
+        ropeFault(" ".repeat(400), 400, 0);
+        ropeFault(";".repeat(400), 0, 0);
+        ropeFault("rope 1 0" + " ".repeat(391) + ";", 400, 0);
+        ropeFault("z".repeat(400), 0, 0);
+        ropeFault("rope 1 0;zebra", 9, 0);
+        ropeFault("rope 1 0;puller" + " ".repeat(384) + "1", 400, 0);
+        ropeFault("rope " + "1".repeat(395), 5, 1);
+        rule("pull 1" + " ".repeat(394), 0);
+        ruleFault("pull 1 if " + "[".repeat(390), 20, 2);
+        ruleFault("pull 1 if 1" + "<".repeat(389), 12, 0);
     }
 }

@@ -143,6 +143,18 @@ public final class NotesTest {
         TugRope late = Check.made("rope 60 0;puller 1 4 60 9", "pull 2 if heave < 20", "pull 2;pull 3");
         check.is("behind the 21st", late.look(0), 21);
         check.is("two are alike", late.look(1), 2);
+        TugRope last = Check.made("rope 60 0;puller 1 4 60 9", "pull 0", "pull 1 if heave = 59");
+        last.note(1, 100);
+        check.is("behind the last", last.look(0), 60);
+        check.is("one each", last.look(1), 1);
+        TugRope six = Check.made("rope 60 0;puller 1 4 60 9", "pull 0", "pull 1", "pull 2", "pull 3", "pull heave",
+            "pull 1+heave");
+        check.is("behind the first: 2, 0, 1, 2, 3, 0, 1", six.look(0), 1);
+        check.is("two and two", six.look(1), 2);
+        six.note(3, 103);
+        check.is("1 and 4, 3 and 3", six.ruled(0), 2);
+        check.is("they part behind the first", six.look(0), 1);
+        check.is("one each", six.look(1), 1);
     }
 
     private static void images() {
