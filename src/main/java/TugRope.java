@@ -7,7 +7,7 @@ import java.util.Arrays;
 public final class TugRope {
     public static final int NONE = -1;
 
-    /** What calls answer for which NONE is an answer of its own. */
+    /** What is answered where NONE means something else: that there is no such thing. */
     private static final int REFUSED = -2;
     private static final int MOST_PULLERS = 8;
     private static final int MOST_WIND = 60;
@@ -1340,11 +1340,13 @@ public final class TugRope {
         }
 
         void fix(int who, int effort) {
-            fixed[who] = effort;
+            if (who >= 0 && who < fixed.length) {
+                fixed[who] = effort;
+            }
         }
 
         void heaveOn(Tug tug, int times) {
-            for (int i = 0; i < times; i++) {
+            for (int i = 0; i < times && rope != null; i++) {
                 if (!tug.isOver(rope.line)) {
                     chooseEfforts(tug);
                     int quarter = drawn(tug) / 4;

@@ -129,6 +129,9 @@ public final class AheadTest {
         TugRope oneSide = Check.made("rope 60 0;puller 0 4 9 9;puller 0 8 9 9;puller 0 2 9 9");
         check.is("nobody to change with", oneSide.trade(2, 0), 14);
         check.is("nobody to change with", oneSide.trade(2, 1), -1);
+        TugRope places = Check.made("rope 60 0;puller 0 8 9 9;puller 0 4 9 9", "pull 1 if place = 0");
+        check.is("two of one SIDE do not change", places.trade(1, 0), 2);
+        check.is("two of one SIDE do not change", places.trade(1, 1), -1);
         check.is("n 40", t.trade(40, 0) >= 0 ? 1 : 0, 1);
         check.is("nobody's", Check.made("rope 5 0;ribbon 6").trade(3, 0), 2);
     }
