@@ -291,15 +291,12 @@ public final class TugRope {
     }
 
     public int note(int n, int ribbon) {
-        if (now.rope == null) {
-            return REFUSED;
-        }
         if (n == NONE) {
             now.notes = 0;
             return 0;
         }
         boolean told = n >= 0 && n <= LAST_NOTED && ribbon >= 0 && ribbon <= 2 * MIDDLE;
-        if (!told || now.notes >= MOST_NOTES) {
+        if (!told || now.rope == null || now.notes >= MOST_NOTES) {
             return REFUSED;
         }
         now.addNote(n, ribbon - MIDDLE);

@@ -856,14 +856,11 @@ final class Model {
     }
 
     int note(int n, int ribbon) {
-        if (told == null) {
-            return -2;
-        }
         if (n == NONE) {
             notes.clear();
             return 0;
         }
-        if (n < 0 || n > 60 || ribbon < 0 || ribbon > 200 || notes.size() == 10) {
+        if (told == null || n < 0 || n > 60 || ribbon < 0 || ribbon > 200 || notes.size() == 10) {
             return -2;
         }
         notes.add(new Note(n, ribbon - 100));

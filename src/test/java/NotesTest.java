@@ -224,6 +224,10 @@ public final class NotesTest {
     private static void withoutRope() {
         TugRope t = new TugRope();
         check.is("note", t.note(0, 100), -2);
+        check.is("none noted", t.count(10), 0);
+        check.is("no notes", t.note(-1, 0), 0);
+        check.is("no notes, whatever the ribbon", t.note(-1, 201), 0);
+        check.is("note below NONE", t.note(-2, 100), -2);
         check.is("strengths", t.strengths(0, 0), -1);
         check.is("winds", t.winds(0, 0), -1);
         check.is("ruled", t.ruled(0), -3);
