@@ -1255,14 +1255,16 @@ public final class TugRope {
             }
         }
 
+        /** NONE, if there are no NOTES. */
         int lastNoted() {
-            int last = 0;
+            int last = NONE;
             for (int i = 0; i < notes; i++) {
                 last = Math.max(last, notedHeave[i]);
             }
             return last;
         }
 
+        /** Whether the RIBBON can be there behind that HEAVE. */
         boolean notesAllow(int heave, int ribbon) {
             for (int i = 0; i < notes; i++) {
                 if (notedHeave[i] == heave && notedRibbon[i] != ribbon) {
@@ -1479,10 +1481,10 @@ public final class TugRope {
 
         int findEnd(int what) {
             startFromNow();
-            for (int n = 1; n <= MOST_OVER; n++) {
+            for (int n = 0; n < MOST_OVER; n++) {
                 heaver.heaveOn(trial, 1);
                 if (trial.isOver(now.rope.line)) {
-                    return what == 0 ? n : trial.ribbon < 0 ? 0 : 1;
+                    return what == 0 ? now.tug.heaves + n : trial.ribbon < 0 ? 0 : 1;
                 }
             }
             return REFUSED;
@@ -1595,13 +1597,13 @@ public final class TugRope {
             heaver.takeUp(rope, rule);
             trial.begin(rope);
             int last = now.lastNoted();
-            for (int n = 0; n < last; n++) {
+            for (int n = 0; n <= last; n++) {
+                heaver.heaveOn(trial, 1);
                 if (!now.notesAllow(n, trial.ribbon)) {
                     return false;
                 }
-                heaver.heaveOn(trial, 1);
             }
-            return now.notesAllow(last, trial.ribbon);
+            return true;
         }
 
         int steadyEfforts(int one, int other, int n, int what) {
@@ -1649,7 +1651,7 @@ public final class TugRope {
             for (int n = 0; n < MOST_ALIKE; n++) {
                 for (int later = n + 1; later <= MOST_ALIKE; later++) {
                     if (seen[n] == seen[later]) {
-                        return what == 0 ? n + 1 : later - n;
+                        return what == 0 ? now.tug.heaves + n : later - n;
                     }
                 }
             }
@@ -1681,7 +1683,7 @@ public final class TugRope {
             }
             int best = 0;
             int fewest = fitting;
-            for (int n = 1; n <= LAST_NOTED; n++) {
+            for (int n = 0; n <= LAST_NOTED; n++) {
                 int most = mostAlike(n, fitting);
                 if (most < fewest) {
                     fewest = most;
@@ -1691,12 +1693,13 @@ public final class TugRope {
             return what == 0 ? best : fewest;
         }
 
+        /** Where the RIBBON is behind each HEAVE, HEAVE 0 the first: not where it was told to be. */
         private void follow(Rule rule, int track) {
             heaver.takeUp(now.rope, rule);
             trial.begin(now.rope);
             for (int n = 0; n <= LAST_NOTED; n++) {
-                tracks[track][n] = trial.ribbon;
                 heaver.heaveOn(trial, 1);
+                tracks[track][n] = trial.ribbon;
             }
         }
 

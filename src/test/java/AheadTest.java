@@ -46,27 +46,69 @@ public final class AheadTest {
     }
 
     private static void overs() {
+        // 4 and 8 behind HEAVES 0 and 1, a rest in HEAVE 2, 12 behind HEAVE 3
         TugRope t = Check.made("rope 9 2;puller 1 8 4 1");
-        check.is("fourth heave", t.over(0), 4);
-        check.is("side 1", t.over(1), 1);
-        check.is("what 2", t.over(2), -1);
-        check.is("what -1", t.over(-1), -1);
-        t.heave();
-        check.is("third heave now", t.over(0), 3);
-        for (int i = 0; i < 3; i++) {
+        for (int heave = 0; heave <= 3; heave++) {
+            check.is("HEAVE", t.count(5), heave);
+            check.is("HEAVE 3, asked in " + heave, t.over(0), 3);
+            check.is("side 1", t.over(1), 1);
             t.heave();
         }
+        check.is("what 2", t.over(2), -1);
+        check.is("what -1", t.over(-1), -1);
         check.is("over", t.count(8), 1);
-        check.is("over already", t.over(0), 1);
+        check.is("over already", t.over(0), 4);
         check.is("over already", t.over(1), 1);
+        t.heave();
+        check.is("over already, this HEAVE", t.over(0), 5);
+        t.undo();
+        check.is("undone", t.over(0), 4);
         t.send(0);
         t.set(100);
+        check.is("rests in 4, 6 and 8", t.over(0), 9);
         check.is("side 0", t.over(1), 0);
         TugRope never = Check.made("rope 60 0;puller 1 1 60 9");
         check.is("never", never.over(0), -2);
         check.is("never", never.over(1), -2);
-        check.is("heave 200", Check.made("rope 1 0;puller 1 4 60 9", "pull 1 if heave = 199").over(0), 200);
-        check.is("heave 201", Check.made("rope 1 0;puller 1 4 60 9", "pull 1 if heave = 200").over(0), -2);
+        oversAtOnce();
+        oversOfTwoHundred();
+    }
+
+    private static void oversAtOnce() {
+        TugRope t = Check.made("rope 1 0;puller 0 4 60 9");
+        check.is("HEAVE 0 is the one", t.over(0), 0);
+        check.is("side 0", t.over(1), 0);
+        TugRope later = Check.made("rope 60 0;puller 1 40 60 9");
+        check.is("20, 40, 60", later.over(0), 2);
+        later.heave();
+        check.is("asked in HEAVE 1", later.over(0), 2);
+        later.heave();
+        check.is("this HEAVE, 2, is the one", later.over(0), 2);
+        later.image(0);
+        later.set(100);
+        check.is("set back in HEAVE 2", later.over(0), 4);
+        later.back(0);
+        check.is("as in the image", later.over(0), 2);
+        Check.tellRope(later, "rope 60 0;puller 1 40 60 9");
+        check.is("told anew it is HEAVE 0", later.over(0), 2);
+    }
+
+    private static void oversOfTwoHundred() {
+        String rope = "rope 1 0;puller 1 4 60 9";
+        TugRope last = Check.made(rope, "pull 1 if heave = 199");
+        check.is("HEAVE 199 is the last of 200", last.over(0), 199);
+        check.is("its side", last.over(1), 1);
+        TugRope beyond = Check.made(rope, "pull 1 if heave = 200");
+        check.is("HEAVE 200 is not of these", beyond.over(0), -2);
+        beyond.heave();
+        check.is("from HEAVE 1 on it is", beyond.over(0), 200);
+        check.is("from HEAVE 1 on it is", beyond.over(1), 1);
+        TugRope late = Check.made(rope, "pull 1 if heave = 202");
+        late.heave();
+        late.heave();
+        check.is("HEAVE 202 is not of those from 2 on", late.over(0), -2);
+        late.heave();
+        check.is("it is of those from 3 on", late.over(0), 202);
     }
 
     private static void row(TugRope t, int who, int far, int... efforts) {
@@ -184,30 +226,55 @@ public final class AheadTest {
         check.is("nothing stays", t.ribbon(), 100);
     }
 
+    private static void alike(String when, TugRope t, int heave, int later) {
+        check.is("alike " + when, t.alike(0), heave);
+        check.is("how much later " + when, t.alike(1), later);
+    }
+
     private static void alikes() {
         TugRope t = Check.made("rope 60 0;puller 1 1 2 0");
-        check.is("this one", t.alike(0), 1);
-        check.is("two later", t.alike(1), 2);
+        for (int heave = 0; heave < 4; heave++) {
+            alike("2, 0, 2, 0: this one", t, heave, 2);
+            t.heave();
+        }
         check.is("what 2", t.alike(2), -1);
         check.is("what -1", t.alike(-1), -1);
-        t.breath(0, 3);
-        check.is("5, 3, 1, 0, 2, 0: the fourth", t.alike(0), 4);
-        check.is("two later", t.alike(1), 2);
-        TugRope late = Check.made("rope 60 0;puller 1 1 59 9", "pull 1");
-        check.is("59 to 0, then 2", late.alike(0), 58);
-        check.is("three later", late.alike(1), 3);
-        TugRope never = Check.made("rope 60 0;puller 1 1 60 9", "pull 1");
-        check.is("never", never.alike(0), -2);
-        check.is("never", never.alike(1), -2);
+        TugRope more = Check.made("rope 60 0;puller 1 1 2 0");
+        more.breath(0, 3);
+        for (int heave = 0; heave < 6; heave++) {
+            alike("5, 3, 1, 0, 2, 0, in " + heave, more, Math.max(3, heave), 2);
+            more.heave();
+        }
         TugRope over = Check.made("rope 1 0;puller 1 4 60 9");
+        alike("over in the next", over, 1, 1);
         over.heave();
-        check.is("over is alike at once", over.alike(0), 1);
-        check.is("over is alike at once", over.alike(1), 1);
-        // the second HEAVE begins with one down, else it were as the third
+        alike("over, at once", over, 1, 1);
+        over.heave();
+        alike("over, in HEAVE 2", over, 2, 1);
+        over.undo();
+        alike("undone", over, 1, 1);
+        // HEAVE 1 begins with one down, else it were as HEAVE 2
         TugRope down = Check.made("rope 60 9;puller 1 4 0 9;puller 0 4 0 0", "pull 1 if heave = 0 and side = 1");
         down.breath(0, 9);
-        check.is("who stands counts", down.alike(0), 3);
-        check.is("one later", down.alike(1), 1);
+        for (int heave = 0; heave < 4; heave++) {
+            alike("who stands counts, in " + heave, down, Math.max(2, heave), 1);
+            down.heave();
+        }
+        alike("nobody", Check.made("rope 9 0"), 0, 1);
+        alikesOfSixty();
+    }
+
+    private static void alikesOfSixty() {
+        TugRope late = Check.made("rope 60 0;puller 1 1 59 9", "pull 1");
+        alike("59 to 0, then 2", late, 57, 3);
+        late.heave();
+        alike("asked in HEAVE 1", late, 57, 3);
+        TugRope beyond = Check.made("rope 60 0;puller 1 1 60 9", "pull 1");
+        alike("60 to 0, the next is not of these", beyond, -2, -2);
+        beyond.heave();
+        alike("from HEAVE 1 on it is", beyond, 58, 3);
+        TugRope last = Check.made("rope 60 0;puller 1 4 60 9;puller 0 1 60 9", "pull 1 if side = 1 and heave < 59");
+        alike("HEAVE 59 and 60 begin alike but for WIND", last, -2, -2);
     }
 
     private static void pences() {

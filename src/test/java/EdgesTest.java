@@ -31,7 +31,7 @@ public final class EdgesTest {
     private static TugRope busy() {
         TugRope t = Check.made(EIGHT, BUSY, BUSY, BUSY, BUSY, BUSY, BUSY);
         for (int i = 0; i < 10; i++) {
-            t.note(i, t.ahead(0, i, 0));
+            t.note(i, t.ahead(0, i + 1, 0));
         }
         t.heave();
         t.image(1);

@@ -667,7 +667,7 @@ final class Model {
         for (int n = 1; n <= 200; n++) {
             State s = after(now, n, Map.of());
             if (over(s)) {
-                return what == 0 ? n : s.ribbon < 0 ? 0 : 1;
+                return what == 0 ? s.heave - 1 : s.ribbon < 0 ? 0 : 1;
             }
         }
         return -2;
@@ -738,12 +738,12 @@ final class Model {
     private boolean asNoted(Told by, List<Clause> rule) {
         State s = new State(by);
         for (int n = 0; n <= 60; n++) {
+            heave(s, by, rule, Map.of(), -1);
             for (Note note : notes) {
                 if (note.n == n && note.ribbon != s.ribbon) {
                     return false;
                 }
             }
-            heave(s, by, rule, Map.of(), -1);
         }
         return true;
     }
@@ -821,7 +821,7 @@ final class Model {
         for (int n = 0; n < 60; n++) {
             int later = seen.subList(n + 1, 61).indexOf(seen.get(n));
             if (later >= 0) {
-                return what == 0 ? n + 1 : later + 1;
+                return what == 0 ? after(now, n, Map.of()).heave : later + 1;
             }
         }
         return -2;
@@ -902,8 +902,8 @@ final class Model {
         for (int n = 0; n <= 60; n++) {
             Map<Integer, Integer> where = new HashMap<>();
             for (int i = 0; i < all.size(); i++) {
-                where.merge(states.get(i).ribbon, 1, Integer::sum);
                 heave(states.get(i), told, all.get(i) < 0 ? null : rules.get(all.get(i)), Map.of(), -1);
+                where.merge(states.get(i).ribbon, 1, Integer::sum);
             }
             int most = where.values().stream().max(Integer::compare).get();
             if (most < fewest) {

@@ -196,7 +196,8 @@ public final class ModelTest {
     /** A NOTE that is so for some rule or other, most of the time. */
     private void note() {
         int n = random.nextInt(8) == 0 ? upTo(60) : upTo(8);
-        int ribbon = random.nextInt(3) == 0 ? upTo(200) : rope.ahead(0, Math.max(0, Math.min(100, n)), 0);
+        int behind = Math.max(0, Math.min(99, n)) + 1;
+        int ribbon = random.nextInt(3) == 0 ? upTo(200) : rope.ahead(0, behind, 0);
         same("note " + n + " " + ribbon, rope.note(n, ribbon), model.note(n, ribbon));
     }
 

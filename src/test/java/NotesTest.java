@@ -1,6 +1,7 @@
 /** Promises 25, 26, 30 to 32, 36 and 37: notes and what they tell, images. */
 public final class NotesTest {
     private static final Check check = new Check();
+    private static final String ONE = "rope 60 0;puller 1 4 60 9";
     private static final String TWO = "rope 60 0;puller 1 4 9 9;puller 0 4 9 9";
 
     public static void main(String[] args) {
@@ -9,7 +10,7 @@ public final class NotesTest {
         winds();
         fromTheBeginOn();
         ruled();
-        look();
+        looks();
         images();
         imagesWithoutRope();
         withoutRope();
@@ -40,44 +41,68 @@ public final class NotesTest {
         TugRope t = Check.made(TWO);
         check.is("all 40", t.strengths(0, 0), 40);
         check.is("least 1", t.strengths(0, 1), 1);
-        t.note(1, 103);
+        t.note(0, 103);
         check.is("10 and 11", t.strengths(0, 0), 2);
         check.is("10 and 11", t.strengths(0, 1), 10);
         check.is("none of the other", t.strengths(1, 0), 0);
         check.is("none of the other", t.strengths(1, 1), -2);
+        t.note(1, 106);
+        check.is("behind HEAVE 1, too", t.strengths(0, 0), 2);
         t.note(0, 100);
-        check.is("the begin is so", t.strengths(0, 0), 2);
-        t.note(0, 101);
-        check.is("the begin is not so", t.strengths(0, 0), 0);
+        check.is("of the begin no NOTE speaks", t.strengths(0, 0), 0);
+        t.note(-1, 0);
+        t.note(1, 106);
+        check.is("behind HEAVE 1 alone", t.strengths(0, 0), 2);
+        check.is("behind HEAVE 1 alone", t.strengths(0, 1), 10);
+        t.note(-1, 0);
+        t.note(1, 103);
+        check.is("3 is no twice a number", t.strengths(0, 0), 0);
         check.is("what 2", t.strengths(0, 2), -1);
         check.is("what -1", t.strengths(0, -1), -1);
         check.is("nobody", t.strengths(2, 0), -1);
         check.is("nobody", t.strengths(-1, 0), -1);
+        TugRope last = Check.made(ONE, "pull 1 if heave = 60");
+        last.note(60, 103);
+        check.is("12 to 15 behind HEAVE 60", last.strengths(0, 0), 4);
+        check.is("12 to 15 behind HEAVE 60", last.strengths(0, 1), 12);
+        last.note(59, 100);
+        check.is("and nothing behind HEAVE 59", last.strengths(0, 0), 4);
+        last.note(59, 103);
+        check.is("not both", last.strengths(0, 0), 0);
     }
 
     private static void winds() {
         TugRope t = Check.made(TWO);
         check.is("all 61", t.winds(0, 0), 61);
         check.is("least 0", t.winds(0, 1), 0);
-        t.note(1, 99);
+        t.note(0, 99);
         check.is("1 alone", t.winds(0, 0), 1);
         check.is("1 alone", t.winds(0, 1), 1);
         t.note(-1, 0);
-        t.note(1, 100);
+        t.note(0, 100);
         check.is("2 to 60", t.winds(0, 0), 59);
         check.is("2 to 60", t.winds(0, 1), 2);
-        t.note(2, 98);
+        t.note(1, 98);
         check.is("2 alone", t.winds(0, 0), 1);
         check.is("2 alone", t.winds(0, 1), 2);
-        t.note(3, 98);
+        t.note(2, 98);
         check.is("what was told is 2, too: 2 comes back", t.winds(0, 0), 1);
-        t.note(3, 150);
+        t.note(2, 150);
         check.is("none", t.winds(0, 0), 0);
         check.is("none", t.winds(0, 1), -2);
         check.is("what 2", t.winds(0, 2), -1);
         check.is("what -1", t.winds(0, -1), -1);
         check.is("nobody", t.winds(2, 0), -1);
         check.is("nobody", t.winds(-1, 0), -1);
+        TugRope last = Check.made(ONE, "pull 3 if heave = 60");
+        last.note(60, 102);
+        check.is("2 alone behind HEAVE 60", last.winds(0, 0), 1);
+        check.is("2 alone behind HEAVE 60", last.winds(0, 1), 2);
+        last.note(-1, 0);
+        last.note(60, 103);
+        last.note(59, 100);
+        check.is("3 to 60", last.winds(0, 0), 58);
+        check.is("3 to 60", last.winds(0, 1), 3);
     }
 
     private static void fromTheBeginOn() {
@@ -85,7 +110,7 @@ public final class NotesTest {
         t.heave();
         t.send(1);
         t.set(150);
-        t.note(1, 103);
+        t.note(0, 103);
         // by the RULE IN FORCE: s - 4 is 12 to 15
         check.is("16 to 19", t.strengths(0, 0), 4);
         check.is("16 to 19", t.strengths(0, 1), 16);
@@ -97,7 +122,7 @@ public final class NotesTest {
     }
 
     private static TugRope ruledOne() {
-        TugRope t = Check.made("rope 60 0;puller 1 4 60 9", "pull 3", "pull 2", "pull 0 if heave = 0;pull 2");
+        TugRope t = Check.made(ONE, "pull 3", "pull 2", "pull 0 if heave = 0;pull 2");
         t.force(2);
         return t;
     }
@@ -106,55 +131,102 @@ public final class NotesTest {
         TugRope t = ruledOne();
         check.is("all and none", t.ruled(0), 4);
         check.is("none first", t.ruled(1), -1);
-        t.note(1, 102);
+        t.note(0, 102);
         check.is("none and 1", t.ruled(0), 2);
         check.is("none and 1", t.ruled(1), -1);
         t.note(-1, 0);
-        t.note(1, 103);
+        t.note(0, 103);
         check.is("0", t.ruled(0), 1);
         check.is("0", t.ruled(1), 0);
         t.note(-1, 0);
-        t.note(4, 106);
-        check.is("2", t.ruled(1), 2);
-        t.note(1, 102);
+        t.note(1, 106);
+        check.is("0, behind HEAVE 1", t.ruled(0), 1);
+        check.is("0, behind HEAVE 1", t.ruled(1), 0);
+        t.note(-1, 0);
+        t.note(2, 106);
+        check.is("none and 1, behind HEAVE 2", t.ruled(0), 2);
+        t.note(-1, 0);
+        t.note(3, 106);
+        check.is("2, behind HEAVE 3", t.ruled(0), 1);
+        check.is("2, behind HEAVE 3", t.ruled(1), 2);
+        t.note(0, 102);
         check.is("no such", t.ruled(0), 0);
         check.is("no such", t.ruled(1), -2);
         check.is("what 2", t.ruled(2), -3);
         check.is("what -1", t.ruled(-1), -3);
         check.is("none alone", Check.made(TWO).ruled(0), 1);
+        ruledAtTheEdges();
     }
 
-    private static void look() {
+    private static void ruledAtTheEdges() {
+        TugRope told = Check.made(ONE + ";ribbon 69");
+        told.note(0, 112);
+        check.is("2 from where it was told to be", told.ruled(0), 1);
+        told.note(0, 110);
+        check.is("where it was told to be is behind no HEAVE", told.ruled(0), 0);
+        TugRope last = Check.made(ONE, "pull 1 if heave = 59", "pull 1 if heave = 60", "pull 1 if heave = 61");
+        last.note(60, 101);
+        check.is("0 and 1 behind HEAVE 60", last.ruled(0), 2);
+        check.is("0 and 1 behind HEAVE 60", last.ruled(1), 0);
+        last.note(59, 100);
+        check.is("1 alone", last.ruled(0), 1);
+        check.is("1 alone", last.ruled(1), 1);
+        last.note(-1, 0);
+        last.note(60, 100);
+        check.is("2 has not pulled yet", last.ruled(0), 1);
+        check.is("2 has not pulled yet", last.ruled(1), 2);
+        TugRope over = Check.made("rope 30 0;puller 1 40 60 9");
+        over.note(1, 140);
+        over.note(60, 140);
+        check.is("over it stays there", over.ruled(0), 1);
+    }
+
+    private static void look(String when, TugRope t, int heave, int many) {
+        check.is("look " + when, t.look(0), heave);
+        check.is("how many " + when, t.look(1), many);
+    }
+
+    private static void looks() {
         TugRope t = ruledOne();
-        check.is("behind the first", t.look(0), 1);
-        check.is("two are alike", t.look(1), 2);
-        t.note(2, 104);
-        check.is("none and 1 never part", t.look(0), 0);
-        check.is("two are alike", t.look(1), 2);
-        t.note(-1, 0);
-        t.note(1, 103);
-        check.is("one alone", t.look(0), 0);
-        check.is("one alone", t.look(1), 1);
+        look("behind HEAVE 0: 2, 3, 2, 0", t, 0, 2);
         t.note(1, 104);
-        check.is("none is so", t.look(0), -2);
-        check.is("none is so", t.look(1), -2);
+        look("none and 1 never part", t, 0, 2);
+        t.note(-1, 0);
+        t.note(0, 103);
+        look("one alone", t, 0, 1);
+        t.note(0, 104);
+        look("none is so", t, -2, -2);
         check.is("what 2", t.look(2), -1);
         check.is("what -1", t.look(-1), -1);
-        TugRope late = Check.made("rope 60 0;puller 1 4 60 9", "pull 2 if heave < 20", "pull 2;pull 3");
-        check.is("behind the 21st", late.look(0), 21);
-        check.is("two are alike", late.look(1), 2);
-        TugRope last = Check.made("rope 60 0;puller 1 4 60 9", "pull 0", "pull 1 if heave = 59");
-        last.note(1, 100);
-        check.is("behind the last", last.look(0), 60);
-        check.is("one each", last.look(1), 1);
-        TugRope six = Check.made("rope 60 0;puller 1 4 60 9", "pull 0", "pull 1", "pull 2", "pull 3", "pull heave",
-            "pull 1+heave");
-        check.is("behind the first: 2, 0, 1, 2, 3, 0, 1", six.look(0), 1);
-        check.is("two and two", six.look(1), 2);
-        six.note(3, 103);
+        look("behind HEAVE 20", Check.made(ONE, "pull 2 if heave < 20", "pull 2;pull 3"), 20, 2);
+        TugRope six = Check.made(ONE, "pull 0", "pull 1", "pull 2", "pull 3", "pull heave", "pull 1+heave");
+        look("behind HEAVE 0: 2, 0, 1, 2, 3, 0, 1", six, 0, 2);
+        six.note(2, 103);
         check.is("1 and 4, 3 and 3", six.ruled(0), 2);
-        check.is("they part behind the first", six.look(0), 1);
-        check.is("one each", six.look(1), 1);
+        look("they part behind HEAVE 0", six, 0, 1);
+        looksAtTheEdges();
+    }
+
+    /** By none the RIBBON is elsewhere behind HEAVE 0: a NOTE leaves the RULES alone. */
+    private static TugRope resting(String... rules) {
+        TugRope t = Check.made(ONE, rules);
+        t.note(0, 100);
+        return t;
+    }
+
+    private static void looksAtTheEdges() {
+        look("HEAVE 0 of these", Check.made(ONE, "pull 0"), 0, 1);
+        look("HEAVE 1", resting("pull 0", "pull 1 if heave = 1"), 1, 1);
+        look("HEAVE 5 alone", resting("pull 1 if heave = 5", "pull 1 if heave = 6"), 5, 1);
+        look("two part behind 3, all behind 7",
+            resting("pull 0", "pull 1 if heave = 3", "pull 1 if heave = 3 or heave = 7"), 7, 1);
+        look("HEAVE 59", resting("pull 0", "pull 1 if heave = 59"), 59, 1);
+        look("HEAVE 60", resting("pull 0", "pull 1 if heave = 60"), 60, 1);
+        look("behind none, HEAVE 61 is not asked", resting("pull 0", "pull 1 if heave = 61"), 0, 2);
+        TugRope later = resting("pull 0", "pull 1 if heave = 4");
+        later.heave();
+        later.heave();
+        look("from the begin on, in HEAVE 2 as well", later, 4, 1);
     }
 
     private static void images() {
