@@ -13,10 +13,12 @@ public final class RuleEdgesTest {
         sixtyTogether();
         sixtyAtTheSign();
         sixtyOfOneRule();
+        sixtyOfEachOfSix();
         endOfTheText();
         whatCannotStand();
         firstFaultAlongTheText();
         ofOnePlaceTheLeast();
+        eachSignHoldsOrNot();
         byNothing();
         towardsNothing();
         roundInSixtyFourBits();
@@ -180,6 +182,12 @@ public final class RuleEdgesTest {
         good("pull 1 if [" + "not ".repeat(9) + "1=1]and[" + "not ".repeat(9) + "1=1]");
         fault("pull 1 if [" + "not ".repeat(9) + "1=1]and[" + "not ".repeat(10) + "1=1]", 91, 2);
         fault("pull 1 if " + ten + " and [" + ten + "]", 48, 2);
+        // and and or are around nothing, whatever was joined by them ahead
+        fault("pull 1 if 1=1 or 1=1 or " + "[".repeat(11), 34, 2);
+        fault("pull 1 if 1=1 and 1=1 and 1=1 or " + "[".repeat(11), 43, 2);
+        fault("pull 1 if [1=1 and 1=1 or 1=1] and " + "not ".repeat(11), 75, 2);
+        fault("pull 1 if [1=1 or 1=1 or 1=1 and " + "[".repeat(10), 42, 2);
+        good("pull 1 if [1=1 or 1=1 or 1=1 and " + "[".repeat(9) + "1=1" + "]".repeat(10));
     }
 
     private static void sixtyTogether() {
@@ -225,6 +233,20 @@ public final class RuleEdgesTest {
         check.is("sixty again", Check.tellRule(t, "pull 1" + "+1".repeat(59)), 2);
         check.is("deep", Check.tellRule(t, "pull 1 if " + "[".repeat(11)), Check.fault(20, 2));
         check.is("ten again", Check.tellRule(t, "pull 1 if " + "[".repeat(10) + "1=1" + "]".repeat(10)), 3);
+    }
+
+    /** As much as can be told: six RULES of sixty each, with FAULTS between, and each says what it says. */
+    private static void sixtyOfEachOfSix() {
+        TugRope t = Check.made("rope 60 0;puller 1 4 60 9");
+        for (int i = 0; i < 6; i++) {
+            check.is("sixty-one", Check.tellRule(t, "pull 1" + "*1".repeat(60)), Check.fault(125, 3));
+            check.is("sixty", Check.tellRule(t, "pull " + i % 4 + "*1".repeat(50) + " if 1+1+1+1=1+1+1+1"), i);
+        }
+        for (int i = 5; i >= 0; i--) {
+            t.force(i);
+            int was = t.ribbon();
+            check.is("rule " + i + " of sixty", t.heave() - was, i % 4);
+        }
     }
 
     private static void endOfTheText() {
@@ -302,6 +324,34 @@ public final class RuleEdgesTest {
         fault("pull 1 if 1 = [", 14, 0);
         fault("pull 1 if 1 = not", 14, 0);
         fault("pull 1 100000", 7, 0);
+    }
+
+    /** Each SIGN just below, at and just above, alone, within not, and joined by and and or. */
+    private static void eachSignHoldsOrNot() {
+        String[] signs = {"<", "<=", "=", ">=", ">"};
+        boolean[][] due = {{true, false, false}, {true, true, false}, {false, true, false}, {false, true, true}, {false, false, true}};
+        for (int i = 0; i < signs.length; i++) {
+            for (int left = 4; left <= 6; left++) {
+                String fact = left + signs[i] + "5";
+                means(fact, due[i][left - 4]);
+                means("not " + fact, !due[i][left - 4]);
+                means("not not " + fact, due[i][left - 4]);
+                means("not [" + fact + "]", !due[i][left - 4]);
+                means(fact + " and 1=1", due[i][left - 4]);
+                means("1<2 and " + fact, due[i][left - 4]);
+                means(fact + " or 1=2", due[i][left - 4]);
+                means("not [" + fact + " or 1=2] and 1>=1", !due[i][left - 4]);
+                means("not [2>1 and " + fact + "] or 1>1", !due[i][left - 4]);
+            }
+        }
+    }
+
+    private static void means(String test, boolean due) {
+        if (due) {
+            holds(0, test);
+        } else {
+            fails(0, test);
+        }
     }
 
     private static void byNothing() {
